@@ -419,7 +419,7 @@ public final class PlaceMoves {
         return fitting;
     }
 
-    /** Through how many of the doors that are set as bits one goes at least between two places; NONE if no way leads. */
+    /** Through how many of the open doors, set as bits, one goes at least between two places; NONE if no way leads. */
     private int doorsBetween(int from, int to, long open) {
         int reached = 1 << from;
         for (int steps = 0; steps < MAX_PLACES; steps++) {

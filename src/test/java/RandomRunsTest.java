@@ -96,7 +96,8 @@ final class RandomRunsTest {
         } else if (kind < 22) {
             both("box " + object, () -> x.box(object) ? 1 : 0, () -> y.box(object) ? 1 : 0);
         } else if (kind == 22) {
-            both("quiet " + place + " " + hour, () -> quiet(place, hour, hour + n), () -> plainQuiet(place, hour, hour + n));
+            both("quiet " + place + " " + hour,
+                    () -> quiet(place, hour, hour + n), () -> plainQuiet(place, hour, hour + n));
         } else {
             int other = somePlace();
             int w = 1 + random.nextInt(25);
@@ -151,7 +152,8 @@ final class RandomRunsTest {
             case 11 -> both("door", () -> x.door(a, b, c, d), () -> y.door(a, b, c, d));
             case 12 -> both("passes", () -> x.passes(a, b) ? 1 : 0, () -> y.passes(a, b) ? 1 : 0);
             case 13 -> both("way", () -> x.way(a, b), () -> y.way(a, b));
-            case 14 -> both("planned", () -> x.planned(a, b, near(c), near(d)), () -> y.planned(a, b, near(c), near(d)));
+            case 14 -> both("planned",
+                    () -> x.planned(a, b, near(c), near(d)), () -> y.planned(a, b, near(c), near(d)));
             case 15 -> both("used", () -> x.used(a, b), () -> y.used(a, b));
             case 16 -> both("quiet", () -> quiet(a, b, c), () -> plainQuiet(a, b, c));
             default -> both("count", () -> x.count(a), () -> y.count(a));
@@ -186,7 +188,9 @@ final class RandomRunsTest {
     }
 
     private int someHour() {
-        return x.count(4) + (random.nextInt(8) == 0 ? random.nextInt(stride + 1) : 0) - (random.nextInt(50) == 0 ? 1 : 0);
+        int ahead = random.nextInt(8) == 0 ? random.nextInt(stride + 1) : 0;
+        int gone = random.nextInt(50) == 0 ? 1 : 0;
+        return x.count(4) + ahead - gone;
     }
 
     private void both(String call, IntSupplier mine, IntSupplier plain) {
