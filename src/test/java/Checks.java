@@ -1,12 +1,19 @@
 import java.util.NoSuchElementException;
 import java.util.function.BooleanSupplier;
+import java.util.function.IntConsumer;
 import java.util.function.IntSupplier;
 
 /** Counts the calls whose answer is not the one that is due, and prints them. */
 final class Checks {
     private static int wrong = 0;
+    private static String under = "";
 
     private Checks() {
+    }
+
+    /** What is printed before all that is wrong from now on. */
+    static void under(String words) {
+        under = words;
     }
 
     static void same(String what, long due, long got) {
@@ -29,34 +36,57 @@ final class Checks {
         answers(call, due ? 1 : 0, () -> run.getAsBoolean() ? 1 : 0);
     }
 
-    /** That a call throws just this exception and that nothing that can be seen of the object changes. */
-    static void refuses(PlaceMoves x, Class<? extends RuntimeException> due, String call, Runnable run) {
-        String before = seen(x);
+    /** That a call throws just this exception and that it changes nothing, as later calls show. */
+    static void refuses(Run x, Class<? extends RuntimeException> due, String call, Runnable run) {
+        int number = x.calls();
         String got = outcome(() -> {
             run.run();
             return 0;
         });
         same(call, due.getSimpleName(), got);
-        same(call + " changes nothing", before, seen(x));
+        changedNothing(x, call, number);
     }
 
-    /** That a call answers this and that nothing that can be seen of the object changes. */
-    static void answersIdly(PlaceMoves x, String call, int due, IntSupplier run) {
-        String before = seen(x);
+    /** That a call answers this and that it changes nothing, as later calls show. */
+    static void answersIdly(Run x, String call, int due, IntSupplier run) {
+        int number = x.calls();
         answers(call, due, run);
-        same(call + " changes nothing", before, seen(x));
+        changedNothing(x, call, number);
     }
 
-    static void noPart(PlaceMoves x, String call, Runnable run) {
+    static void tellsIdly(Run x, String call, boolean due, BooleanSupplier run) {
+        answersIdly(x, call, due ? 1 : 0, () -> run.getAsBoolean() ? 1 : 0);
+    }
+
+    private static void changedNothing(Run x, String call, int number) {
+        same(call + " is one call of the run", number + 1, x.calls());
+        same(call + " changes nothing", LaterCalls.answers(x, number), LaterCalls.answers(x, Run.NO_CALL));
+    }
+
+    static void noPart(Run x, String call, Runnable run) {
         refuses(x, NoSuchElementException.class, call, run);
     }
 
-    static void badArgument(PlaceMoves x, String call, Runnable run) {
+    static void badArgument(Run x, String call, Runnable run) {
         refuses(x, IllegalArgumentException.class, call, run);
     }
 
-    static void badState(PlaceMoves x, String call, Runnable run) {
+    static void badState(Run x, String call, Runnable run) {
         refuses(x, IllegalStateException.class, call, run);
+    }
+
+    /** That there is no part of a number below 0, nor of the first one beyond, nor of one far off. */
+    static void noPartBut(Run x, String call, int beyond, IntConsumer run) {
+        for (int number : new int[] {-1, beyond, -2, beyond + 1, Integer.MIN_VALUE, Integer.MAX_VALUE}) {
+            noPart(x, call + " " + number, () -> run.accept(number));
+        }
+    }
+
+    /** That a value is refused that is out of its range by one, or far out of it. */
+    static void onlyWithin(Run x, String call, int least, int greatest, IntConsumer run) {
+        for (int value : new int[] {least - 1, greatest + 1, Integer.MIN_VALUE, Integer.MAX_VALUE}) {
+            badArgument(x, call + " " + value, () -> run.accept(value));
+        }
     }
 
     /** The answer as a text, or the simple name of what was thrown. */
@@ -65,42 +95,6 @@ final class Checks {
             return String.valueOf(run.getAsInt());
         } catch (RuntimeException e) {
             return e.getClass().getSimpleName();
-        }
-    }
-
-    /** All that the face tells of an object without changing it. */
-    static String seen(PlaceMoves x) {
-        StringBuilder text = new StringBuilder();
-        for (int what = 0; what <= 5; what++) {
-            text.append(x.count(what)).append(' ');
-        }
-        for (int o = 0; o < x.count(1); o++) {
-            text.append("| ").append(x.last(o)).append(' ');
-            seenRows(x, o, text);
-            for (int door = 0; door < x.count(2); door++) {
-                text.append(x.passes(o, door) ? '+' : '-');
-            }
-            for (int to = 0; to < x.count(0); to++) {
-                text.append(' ').append(x.way(o, to));
-            }
-        }
-        for (int p = 0; p < x.count(0); p++) {
-            for (int hour = 0; hour <= 40; hour++) {
-                text.append(' ').append(x.used(p, hour));
-            }
-        }
-        return text.toString();
-    }
-
-    private static void seenRows(PlaceMoves x, int object, StringBuilder text) {
-        for (int k = 0; k < 40; k++) {
-            int row = k;
-            if (outcome(() -> x.history(object, row, 0)).equals("NoSuchElementException")) {
-                return;
-            }
-            for (int what = 0; what <= 2; what++) {
-                text.append(x.history(object, k, what)).append(' ');
-            }
         }
     }
 
@@ -113,6 +107,6 @@ final class Checks {
 
     private static void report(String what, String due, String got) {
         wrong++;
-        System.out.println(what + ": due " + due + ", got " + got);
+        System.out.println(under + what + ": due " + due + ", got " + got);
     }
 }

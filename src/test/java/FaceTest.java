@@ -6,7 +6,7 @@ import java.util.HashSet;
 import java.util.Set;
 import java.util.TreeSet;
 
-/** The face of the class, and promise 1: a new object. */
+/** The face of the class. */
 final class FaceTest {
     private static final String NSE = "java.util.NoSuchElementException";
     private static final String IAE = "java.lang.IllegalArgumentException";
@@ -15,8 +15,6 @@ final class FaceTest {
     public static void main(String[] args) {
         face();
         privateNames();
-        newObject();
-        twoObjects();
         Checks.end();
     }
 
@@ -83,29 +81,5 @@ final class FaceTest {
                 Checks.same("a private method with a name of the face", "none", method.getName());
             }
         }
-    }
-
-    private static void newObject() {
-        PlaceMoves x = new PlaceMoves();
-        for (int what = 0; what <= 5; what++) {
-            Checks.same("count of a new object", 0, x.count(what));
-        }
-        Checks.noPart(x, "where in a new object", () -> x.where(0, 0));
-        Checks.noPart(x, "used in a new object", () -> x.used(0, 0));
-        Checks.noPart(x, "passes in a new object", () -> x.passes(0, 0));
-        for (int person = 0; person <= 9; person++) {
-            int p = person;
-            Checks.tells("nobody has a key at first", false, () -> x.key(p, false));
-        }
-    }
-
-    private static void twoObjects() {
-        PlaceMoves x = new PlaceMoves();
-        PlaceMoves y = new PlaceMoves();
-        x.place(-1, 5);
-        x.object(1, 1, 1, 5);
-        x.move(0, 0, 7, 0, 0);
-        Checks.same("another object's places", 0, y.count(0));
-        Checks.same("another object's hour", 0, y.count(4));
     }
 }

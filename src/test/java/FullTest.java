@@ -1,4 +1,4 @@
-/** Objects that hold as much as the document lets them: 24 places, 20 objects, 40 doors, 30 plans, 800 rows. */
+/** Runs with as many places, objects, doors, plans and rows as the document lets be. */
 final class FullTest {
     public static void main(String[] args) {
         placesInPlaces();
@@ -6,13 +6,13 @@ final class FullTest {
         lastOverManyRows();
         manyDoors();
         manyPlans();
-        allRows();
+        rowsOfEachObject();
         Checks.end();
     }
 
     /** Place n lies in place n - 1, and object n fits into object n - 1. */
-    private static PlaceMoves full(int grams) {
-        PlaceMoves x = new PlaceMoves();
+    private static Run full(int grams) {
+        Run x = new Run();
         for (int n = 0; n < 24; n++) {
             x.place(n - 1, 1000000000);
         }
@@ -24,7 +24,7 @@ final class FullTest {
     }
 
     private static void placesInPlaces() {
-        PlaceMoves x = full(1000000);
+        Run x = full(1000000);
         for (int n = 0; n < 20; n++) {
             int object = n;
             Checks.answers("object " + n, 0, () -> x.move(object, 23 - object, 1, 0, 0));
@@ -38,7 +38,7 @@ final class FullTest {
     }
 
     private static void boxesInBoxes() {
-        PlaceMoves x = full(5);
+        Run x = full(5);
         for (int n = 19; n > 0; n--) {
             int object = n;
             Checks.answers("box " + n, 0, () -> x.into(object, object - 1, 1));
@@ -58,7 +58,7 @@ final class FullTest {
     }
 
     private static void lastOverManyRows() {
-        PlaceMoves x = full(5);
+        Run x = full(5);
         x.move(19, 7, 0, 0, 0);
         for (int n = 0; n < 39; n++) {
             x.into(19, 18, 1 + 2 * n);
@@ -69,7 +69,7 @@ final class FullTest {
     }
 
     private static void manyDoors() {
-        PlaceMoves x = full(5);
+        Run x = full(5);
         for (int n = 0; n < 38; n++) {
             x.door(0, 1, 1, 1);
         }
@@ -82,7 +82,7 @@ final class FullTest {
     }
 
     private static void manyPlans() {
-        PlaceMoves x = full(1000000);
+        Run x = full(1000000);
         for (int n = 0; n < 30; n++) {
             int number = n;
             Checks.answers("plan " + n, 0, () -> x.planned(number % 20, number % 24, number, 1000000));
@@ -94,18 +94,20 @@ final class FullTest {
         Checks.same("two in the innermost", 2000000, x.used(23, 29));
     }
 
-    private static void allRows() {
-        PlaceMoves x = full(5);
-        for (int n = 0; n < 800; n++) {
-            x.move(n / 40, n % 24, n, 0, 0);
-        }
-        Checks.same("rows of all", 800, x.count(5));
+    /** Each object in turn, as no run of 512 calls can give 40 rows to all. */
+    private static void rowsOfEachObject() {
         for (int object = 0; object < 20; object++) {
+            Run x = full(5);
             for (int k = 0; k < 40; k++) {
-                int n = object * 40 + k;
-                Checks.same("the hour of row " + n, n, x.history(object, k, 0));
-                Checks.same("the place of row " + n, n % 24, x.history(object, k, 2));
-                Checks.same("where at hour " + n, n % 24, x.where(object, n));
+                x.move(object, (object + k) % 24, 2 * k, 0, 0);
+            }
+            Checks.same("rows of all", 40, x.count(5));
+            for (int k = 0; k < 40; k++) {
+                int place = (object + k) % 24;
+                Checks.same("the hour of row " + k, 2 * k, x.history(object, k, 0));
+                Checks.same("the place of row " + k, place, x.history(object, k, 2));
+                Checks.same("where at its hour", place, x.where(object, 2 * k));
+                Checks.same("where at the next hour", place, x.where(object, 2 * k + 1));
             }
         }
     }

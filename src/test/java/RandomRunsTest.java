@@ -41,13 +41,13 @@ final class RandomRunsTest {
     private void call() {
         if (random.nextInt(60) == 0) {
             wildCall(random.nextInt(18));
-        } else if (x.count(0) < manyPlaces && random.nextInt(3) == 0) {
-            int into = random.nextInt(x.count(0) + 1) - 1;
+        } else if (y.count(0) < manyPlaces && random.nextInt(3) == 0) {
+            int into = random.nextInt(y.count(0) + 1) - 1;
             int bears = load / (into < 0 ? 1 : 2) + random.nextInt(load);
             both("place " + into + " " + bears, () -> x.place(into, bears), () -> y.place(into, bears));
-        } else if (x.count(1) < manyObjects && random.nextInt(3) == 0) {
+        } else if (y.count(1) < manyObjects && random.nextInt(3) == 0) {
             // The later, the smaller: so that boxes in boxes come about.
-            int most = 30 - x.count(1);
+            int most = 30 - y.count(1);
             int w = 1 + random.nextInt(most);
             int h = 1 + random.nextInt(most);
             int d = 1 + random.nextInt(most);
@@ -77,7 +77,7 @@ final class RandomRunsTest {
             both("lost " + object + " " + hour,
                     () -> x.lost(object, hour) ? 1 : 0, () -> y.lost(object, hour) ? 1 : 0);
         } else if (kind < 18) {
-            int from = x.count(4) + random.nextInt(8);
+            int from = y.count(4) + random.nextInt(8);
             int to = from + random.nextInt(12) - 1;
             both("planned " + object + " " + place + " " + from + " " + to,
                     () -> x.planned(object, place, from, to), () -> y.planned(object, place, from, to));
@@ -109,7 +109,7 @@ final class RandomRunsTest {
     private void ask(int kind) {
         int object = someObject();
         int place = somePlace();
-        int hour = random.nextInt(x.count(4) + 12) - 1;
+        int hour = random.nextInt(y.count(4) + 12) - 1;
         int k = random.nextInt(random.nextInt(8) == 0 ? 42 : 6) - 1;
         int what = random.nextInt(7) - 1;
         if (kind == 0) {
@@ -180,17 +180,17 @@ final class RandomRunsTest {
     }
 
     private int someObject() {
-        return random.nextInt(40) == 0 ? x.count(1) : random.nextInt(Math.max(1, x.count(1)));
+        return random.nextInt(40) == 0 ? y.count(1) : random.nextInt(Math.max(1, y.count(1)));
     }
 
     private int somePlace() {
-        return random.nextInt(40) == 0 ? x.count(0) : random.nextInt(Math.max(1, x.count(0)));
+        return random.nextInt(40) == 0 ? y.count(0) : random.nextInt(Math.max(1, y.count(0)));
     }
 
     private int someHour() {
         int ahead = random.nextInt(8) == 0 ? random.nextInt(stride + 1) : 0;
         int gone = random.nextInt(50) == 0 ? 1 : 0;
-        return x.count(4) + ahead - gone;
+        return y.count(4) + ahead - gone;
     }
 
     private void both(String call, IntSupplier mine, IntSupplier plain) {
