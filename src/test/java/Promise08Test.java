@@ -2,15 +2,15 @@
 final class Promise08Test {
     public static void main(String[] args) {
         Heading promise = new Heading("Promise 8: into");
-        String sizes = "2 if one of its sizes, the three of each by size, the least against the least, is not below the box's";
         promise.says("Puts an object into a box: 0", Promise08Test::putsIntoABox);
         promise.says("Puts an object into a box: 0", Promise08Test::intoTheBoxThatItIsIn);
         promise.says("1 if it is no box", Promise08Test::noBox);
         promise.says("or the same one", Promise08Test::theSameOne);
         promise.says("or the box is in the object", Promise08Test::boxInTheObject);
         promise.says("(over any others)", Promise08Test::boxInTheObjectOverOthers);
-        promise.says(sizes, Promise08Test::sizes);
-        promise.says(sizes, Promise08Test::sizesInAnyOrder);
+        promise.says("is not below the box's", Promise08Test::sizes);
+        promise.says("2 if one of its sizes, the three of each by size, the least against the least",
+                Promise08Test::sizesInAnyOrder);
         promise.says("3 if it needs keys", Promise08Test::keys);
         promise.says("4 if a quiet time bars that", Promise08Test::quietTimes);
         promise.says("5 if the box is somewhere, where the object may not come", Promise08Test::loads);
